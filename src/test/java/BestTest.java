@@ -35,7 +35,9 @@ public final class BestTest {
         bestLeave(Due.with("give 5", 0, 0, 999, 0, 0, 997), 30, 2);
         // seen 99 longer for good, none of them is DONE in 30 SNIPS
         bestLeave(Due.with("over 99 s=0", 0, 0, 0, 0, 0, 7), 30, 7);
-        // cut by 2 each, one behind the other: by 30 SNIPS it is 30 shorter, and 1 off
+        // 2 of the longer one each, so that the other is 1 longer then: 30 SNIPS end the 30, not the 31
+        bestLeave(Due.with(0, 0, 30, 0, 0, 29), 0, 0);
+        bestLeave(Due.with(0, 0, 31, 0, 0, 30), 30, 1);
         bestLeave(Due.with("leave 30", 0, 0, 90, 0, 0, 89), 30, 1);
         // as it looks alike, LEAVE 0 is DONE too
         bestLeave(Due.with("under 20 s=0", 0, 0, 60, 0, 0, 40), 30, 20);
@@ -51,6 +53,9 @@ public final class BestTest {
         due.is("17: half is better", Due.with(0, 0, 60, 0, 0, 40).halves(), 1);
         due.is("17: as it is HALF", Due.with("half", 0, 0, 60, 0, 0, 40).halves(), 1);
         due.is("17: half is worse", Due.with("give 0", 0, 0, 43, 0, 0, 40).halves(), -1);
+        // half is DONE by one SNIP; all goes on by 2 each and ends with the 30th, or with the 31st
+        due.is("17: 30 SNIPS go", Due.with("leave 0", 0, 0, 31, 0, 0, 29).halves(), 0);
+        due.is("17: and no more", Due.with("leave 0", 0, 0, 32, 0, 0, 30).halves(), 1);
         BitOff x = Due.with("half", 0, 0, 43, 0, 0, 40);
         x.halves();
         due.is("17: changes nothing", x.told(4), 1);
@@ -73,13 +78,17 @@ public final class BestTest {
         due.is("18: GIVE less", Due.with("give 30;leave 99", 2, 0, 50, 0, 0, 60).first(1), 1);
         // behind it SNIP is 1, and side 0 looks much longer for once
         due.is("18: SNIP is 1 more", Due.with("give 0;leave 30;over 60 s=0&n=1", 0, 0, 10, 0, 0, 10).first(5), 1);
-        due.is("18: 30 SNIPS go", Due.with("give 0;leave 0", 0, 0, 10, 0, 0, 30, 2, 0, 30).first(5), 0);
+        // 30 and 29 end with the 30th, 31 and 30 with the 31st; the other side first is sooner
+        due.is("18: 30 SNIPS go", Due.with("leave 0", 0, 0, 32, 0, 0, 29).first(1), 0);
+        due.is("18: and no more", Due.with("leave 0", 0, 0, 33, 0, 0, 30).first(1), 1);
     }
 
     private static void twice() {
         due.is("19: nobody", new BitOff().twice(), 0);
         due.is("19: truer is better", Due.with(0, 0, 60, 0, 0, 40).twice(), 1);
         due.is("19: truer is worse", Due.with("give 2", 2, 0, 60, 0, 0, 40).twice(), -1);
+        due.is("19: 30 SNIPS go", Due.with("leave 0", 0, 0, 30, 0, 0, 29).twice(), 0);
+        due.is("19: and no more", Due.with("leave 0", 0, 0, 31, 0, 0, 30).twice(), 1);
         due.is("19: as it is", Due.with("give 0", 2, 0, 60, 0, 0, 40).twice(), 0);
         BitOff x = Due.with(0, 0, 60, 0, 0, 40);
         x.twice();
@@ -122,6 +131,7 @@ public final class BestTest {
         due.is("22: below, alike", Due.with(0, 0, 50, 0, 0, 60, 0, 0, 40, 0, 0, 60).leg(), 1030);
         due.is("22: below, the longer", Due.with(0, 0, 50, 0, 0, 60, 0, 0, 40, 0, 0, 61).leg(), 3031);
         due.is("22: not long enough", Due.with(0, 0, 5, 0, 0, 0, 0, 0, 6, 0, 0, 0).leg(), -5);
+        due.is("22: by 1", Due.with(0, 0, 5, 0, 0, 5, 0, 0, 6, 0, 0, 5).leg(), 2001);
         due.is("22: just long enough", Due.with(0, 0, 0, 0, 0, 0, 0, 0, 11, 0, 0, 0).leg(), 2011);
         due.is("22: just long enough below", Due.with(0, 0, 0, 0, 0, 11, 0, 0, 0, 0, 0, 0).leg(), 1011);
     }

@@ -121,9 +121,14 @@ public final class SeenTest {
         BitOff top = Due.with("leave 99", 0, 0, 999, 0, 0, 999);
         due.is("28: LONG beyond 999", top.odds(4, 0), 0);
         due.is("28: by 5", top.odds(5, 0), 1);
+        due.is("28: alone", Due.with(0, 0, 60).odds(0, 0), 1);
+        due.is("28: alone below", Due.with(0, 0, 60).odds(0, 1), 1);
+        // 30 and 29 end with the 30th SNIP, 31 and 30 with the next one; 35 and 26 by fewer
+        due.is("28: 30 SNIPS go", Due.with("leave 0", 0, 0, 25, 0, 0, 29).odds(0, 1), 1);
+        due.is("28: and no more", Due.with("leave 0", 0, 0, 26, 0, 0, 30).odds(0, 1), 2);
         BitOff thirty = Due.with("leave 0", 0, 0, 90, 0, 0, 84);
         // 95 84: 83 84, then 2 each: 1 off behind 30; 90 89 likewise
-        due.is("28: 30 SNIPS go", thirty.odds(0, 0), 0);
+        due.is("28: not 0 off", thirty.odds(0, 0), 0);
         due.is("28: 1 off", thirty.odds(1, 0), 1);
     }
 
@@ -144,6 +149,7 @@ public final class SeenTest {
         y.set(0, 8);
         due.is("29: 31 by 4", y.mean(60, 0), 31);
         due.is("29: 31 by 4 below", y.mean(60, 1), 4);
+        due.is("29: alone", Due.with(0, 0, 60).mean(9, 0), 60);
         due.is("29: 0 by 1", Due.with(0, 0, 0, 0, 0, 0).mean(9, 0), 0);
         due.is("29: 0 by 1 below", Due.with(0, 0, 0, 0, 0, 0).mean(9, 1), 1);
         due.is("29: 6 by 6", Due.with(0, 0, 1, 0, 0, 1, 0, 0, 1, 0, 0, 1, 0, 0, 1, 0, 0, 2).mean(0, 1), 6);

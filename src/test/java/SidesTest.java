@@ -100,6 +100,9 @@ public final class SidesTest {
         due.is("4: its row went with it", x.of(0, 2), 0);
         x.set(0, 999);
         due.is("4: told at SNIP 1", x.taken(0, 10), 13);
+        BitOff second = Due.with(0, 0, 9, 6, 0, 900);
+        second.row(1, 0, 7);
+        due.is("4: told, the second side", second.taken(1, 10), 18);
         due.is("4: none -1", x.taken(-1, 0), -1);
         due.is("4: none 2 ahead of c", x.taken(2, 1000), -1);
         due.is("4: c -1", x.taken(0, -1), -2);
@@ -193,6 +196,15 @@ public final class SidesTest {
         due.is("8: a good one behind a fault", Due.read(late, "leave 1"), 0);
         due.is("8: has nothing of the fault", late.of(0, 4), 5);
         due.is("8: nor its give", late.told(2), 1);
+        BitOff many = Due.with(0, 0, 5, 0, 0, 5);
+        for (int i = 0; i < 12; i++) Due.read(many, "over 9 s=0|s=1&s=1|v=0|k=0|l=0;leave 9;give 9;half;?");
+        due.is("8: behind many faults", Due.read(many, "over 7 s=1"), 0);
+        due.is("8: it is so", many.of(1, 4), 12);
+        due.is("8: it is not so", many.of(0, 4), 5);
+        due.is("8: GIVE without", many.told(2), 1);
+        due.is("8: LEAVE without", many.told(3), 2);
+        due.is("8: HALF without", many.told(4), 0);
+        due.is("8: all behind half", Due.with("half;all").told(4), 0);
     }
 
     private static void fault(String text, int place) {
@@ -250,6 +262,13 @@ public final class SidesTest {
         fault("give 123", 7);
         fault("give -1", 5);
         fault("given 1", 4);
+        for (String word : new String[] {"over ", "under ", "give ", "leave ", "half", "all"}) {
+            for (int i = 1; i < word.length(); i++) {
+                fault(word.substring(0, i), i);
+                fault(word.substring(0, i) + "?", i);
+            }
+        }
+        fault("leave ", 6);
         fault("leave 1 ", 7);
         fault("leaves", 5);
         fault("half 1", 4);
@@ -321,6 +340,8 @@ public final class SidesTest {
         looks("!s=0|s=0", three(), 1, 1, 1);
         looks("s=01", three(), 0, 1, 0);
         looks("n=0", three(), 1, 1, 1);
+        looks("s<0", three(), 0, 0, 0);
+        looks("!s<0", three(), 1, 1, 1);
         BitOff x = Due.with("leave 0;give 0", 0, 0, 99, 0, 0, 0);
         for (int i = 0; i < 13; i++) {
             x.set(0, 99);

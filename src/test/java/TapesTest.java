@@ -128,6 +128,8 @@ public final class TapesTest {
         due.is("36: BOOK once more", x.count(4), 1);
         due.is("36: THE TEXT is none of it, nor how many KITCHENS", Due.read(x, "alf"), 2);
         due.is("8: the newest holds", x.told(2), 1);
+        imageHoldsNotes();
+        imageLeavesNothing();
         BitOff plain = Due.with(0, 0, 60);
         plain.image();
         Due.read(plain, "give 9;leave 9;half;over 9 s=0");
@@ -136,6 +138,38 @@ public final class TapesTest {
         due.is("36: no KITCHEN: GIVE", plain.told(2), 1);
         due.is("36: no KITCHEN: LEAVE", plain.told(3), 2);
         due.is("36: no KITCHEN: HALF", plain.told(4), 0);
+    }
+
+    private static void imageHoldsNotes() {
+        BitOff x = Due.with(0, 0, 60, 3, 1, 40);
+        x.see(21);
+        x.plan(1);
+        x.book(1, 40);
+        x.image();
+        x.see(-1);
+        x.plan(-1);
+        x.book(-1, 0);
+        x.see(5);
+        x.plan(0);
+        x.book(0, 9);
+        x.undo();
+        due.is("36: SEEN is the 21", x.now(), 1);
+        due.is("36: the PLAN is a DAY", x.planned(0), 19);
+        due.is("36: the BOOK's SIDE and LONG", x.looked(), -5);
+        x.set(1, 41);
+        due.is("36: and no other SIDE", x.looked(), 0);
+    }
+
+    private static void imageLeavesNothing() {
+        BitOff x = Due.with("leave 0", 0, 0, 0);
+        x.image();
+        x.side(6, 1, 60);
+        for (int part = 0; part < 4; part++) x.row(1, part, 9);
+        x.snip();
+        x.undo();
+        x.side(6, 1, 60);
+        due.is("2: CUT is 0 at first", x.of(1, 3), 0);
+        for (int part = 0; part < 4; part++) due.is("2: the ROW is 0 at first", x.row(1, part, 0), 0);
     }
 
     /** A BitOff whose SIDE number i is of KIND k, with v. */
@@ -268,8 +302,10 @@ public final class TapesTest {
             due.is("41: anew", x.tape(sort, sort, 60), 1);
             due.is("41: all 0 anew", x.read(sort, 59), 0);
             x.item(sort, 2, 1);
+            x.item(sort, 0, 1);
             due.is("41: shorter", x.tape(sort, sort, 3), 1);
             due.is("41: all 0 shorter", x.read(sort, 2), 0);
+            due.is("41: all 0 from the first on", x.read(sort, 0), 0);
             due.is("41: no more", x.read(sort, 3), BitOff.NO);
             x.item(sort, 1, 1);
             due.is("41: refused", x.tape(sort, sort, -1), -14);
