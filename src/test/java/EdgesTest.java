@@ -12,6 +12,8 @@ public final class EdgesTest {
         texts();
         clauses();
         numbers();
+        letters();
+        looksBelowNothing();
         blanks();
         brackets();
         kitchensHold();
@@ -186,6 +188,80 @@ public final class EdgesTest {
             if ("<=>".indexOf(sign) >= 0) good("over 1 s" + sign + "1");
             else fault("over 1 s" + sign + "1", 8);
         }
+    }
+
+    /** So many SNIPS and DAYS went, and SIDE 5 is as told. */
+    private static BitOff fifthBehind(int snips, int days, int kind, int v, int length) {
+        BitOff x = Due.with(0, 0, 0, 0, 0, 0);
+        for (int i = 0; i < snips; i++) {
+            x.set(0, 99);
+            x.snip();
+        }
+        x.pass(days);
+        for (int s = 2; s < 5; s++) x.side(0, 0, 0);
+        x.side(kind, v, length);
+        return x;
+    }
+
+    /** Each letter of SIDE 5 tells its own number, which is none of the others' here. */
+    private static void letters() {
+        int[] early = {5, 1, 3, 2, 7, 9};
+        int[] late = {5, 6, 9, 4, 3, 8};
+        for (int i = 0; i < 6; i++) {
+            char letter = "skvlnd".charAt(i);
+            holds(letter, early[i], () -> fifthBehind(7, 9, 1, 3, 29));
+            holds(letter, late[i], () -> fifthBehind(13, 18, 6, 9, 40));
+        }
+        for (char letter : "vlnd".toCharArray()) {
+            for (String test : new String[] {"<1", "=0", "=00", "!>0", "!<0"}) {
+                due.is("3: 0 of " + letter + test, longer(letter, test, fifthBehind(10, 20, 6, 0, 9)), 50);
+                due.is("3: 1 of " + letter + test, longer(letter, test, fifthBehind(11, 21, 0, 1, 10)), test.equals("!<0") ? 50 : 0);
+            }
+        }
+        String[] none = {"=1", "<1", ">1", "1", "=", "|s=1", "&s=1", ")", "s1", "s", "d!", "k;"};
+        for (String test : none) {
+            int at = Character.isLetter(test.charAt(0)) ? 1 : 0;
+            fault("over 1 " + test, 7 + at);
+            fault("over 1 s=1|" + test, 11 + at);
+            fault("over 1 s=1&" + test, 11 + at);
+            fault("over 1 !(" + test, 9 + at);
+        }
+    }
+
+    private interface Maker {
+        BitOff make();
+    }
+
+    /** The letter tells just so much: not by 1 more, nor by 1 less. */
+    private static void holds(char letter, int much, Maker maker) {
+        String[] so = {"<" + (much + 1), "=" + much, ">" + (much - 1), "<99", "!<0"};
+        String[] notSo = {"<" + much, "=" + (much + 1), "=" + (much - 1), ">" + much, "<0", ">99", "!>0"};
+        for (String test : so) due.is("3: " + letter + test + " holds", longer(letter, test, maker.make()), 50);
+        for (String test : notSo) due.is("3: " + letter + test + " does not hold", longer(letter, test, maker.make()), 0);
+    }
+
+    private static int longer(char letter, String test, BitOff x) {
+        String e = test.charAt(0) == '!' ? "!" + letter + test.substring(1) : letter + test;
+        due.is("8: " + e, Due.read(x, "over 50 " + e), 0);
+        return x.of(5, 4) - x.of(5, 2);
+    }
+
+    /** All LOOK below 0: still one LOOKS longest and one shortest. */
+    private static void looksBelowNothing() {
+        BitOff x = Due.with("under 99 s<6", 0, 0, 5, 0, 0, 40, 0, 0, 20);
+        due.is("3: LOOKS below 0", x.of(1, 4), -59);
+        due.is("9: not DONE", x.told(6), 0);
+        due.is("10: the longest of those", x.snip(), 1);
+        due.is("10: by 35, and 1", x.of(1, 2), 4);
+        due.is("10: then the next", x.snip(), 2);
+        // 16 longer than the 4, and 1
+        due.is("10: by 16, and 1", x.of(2, 2), 3);
+        due.is("10: DONE", x.snip(), -5);
+        BitOff y = Due.with("under 50 s=1;leave 9", 0, 0, 9, 0, 0, 50);
+        due.is("9: 0 and 9 are DONE by 9", y.told(6), 1);
+        y.set(1, 49);
+        due.is("9: -1 and 9 are not", y.told(6), 0);
+        due.is("10: as it LOOKS", y.snip(), 0);
     }
 
     private static void blanks() {
