@@ -16,6 +16,7 @@ public final class BitOff {
     private static final int MOST_AHEAD = 60, AHEAD = 30, MOST_DAYS = 99, MOST_LEAVE = 30;
     private static final int MOST_CHANGE = 99, MOST_GUESS = 99, BIT_LONGER = 5;
     private static final int ROW_PARTS = 4, LEGS = 4;
+    private static final int ABOVE_ANY_OFF = 1000000;
 
     private final Table table;
     private final Notes notes;
@@ -183,7 +184,7 @@ public final class BitOff {
         trial.leave = 0;
         int open = MOST_LEAVE + 1;
         int best = 0;
-        int bestOff = Integer.MAX_VALUE;
+        int bestOff = ABOVE_ANY_OFF;
         for (int n = 0; n <= AHEAD && open > 0; n++) {
             int gap = n < AHEAD ? trial.gapSeen() : 0;
             if (gap < open) {
@@ -211,7 +212,7 @@ public final class BitOff {
     public int first(int c) {
         if (!isWithin(c, 1, MOST_CHANGE)) return BAD;
         int best = NOT_SO;
-        int bestOff = Integer.MAX_VALUE;
+        int bestOff = ABOVE_ANY_OFF;
         for (int s = 0; s < table.people; s++) {
             trial.copyFrom(table);
             trial.cutOff(s, c);
@@ -792,7 +793,9 @@ public final class BitOff {
                 else if (code == AND) held = (held >> 1) & (held | -2);
                 else if (code == OR) held = (held >> 1) | (held & 1);
                 else {
-                    int sign = Integer.compare(letters[code / 300 % LETTERS], code % 100) + 1;
+                    int much = letters[code / 300 % LETTERS];
+                    int n = code % 100;
+                    int sign = much < n ? 0 : much == n ? 1 : 2;
                     held = (held << 1) | (sign == code / 100 % 3 ? 1 : 0);
                 }
             }

@@ -22,7 +22,10 @@ public final class LanguageTest {
         String text = new String(bytes, StandardCharsets.ISO_8859_1);
         String code = text.replaceAll("(?s)/\\*.*?\\*/", "").replaceAll("//[^\n]*", "");
         words(code);
-        face(Files.readString(Path.of("../shared/DOC.md")));
+        String document = Files.readString(Path.of("../shared/DOC.md"));
+        face(document);
+        constants(document);
+        saidAhead(document, text);
         classes();
         lengths(code);
         due.end();
@@ -37,6 +40,7 @@ public final class LanguageTest {
         }
         due.is("2: no lambda", count("->", code), 0);
         due.is("2: no method reference", count("::", code), 0);
+        due.is("4: no constant of the library", count("\\b(Integer|Math|Short|Byte|Character)\\.[A-Z]|(?<!NO = )\\bLong\\.[A-Z]", code), 0);
         due.is("4: no import but Arrays, lists", count("import (?!java\\.util\\.(Arrays|ArrayList|List);)", code), 0);
         due.is("9: no loop without a counter", count("\\bwhile\\b|for \\(;;|for \\([^;]*; *;", code), 0);
         due.is("4: texts of signs 1 to 127", count("\\\\u", code), 0);
@@ -82,6 +86,45 @@ public final class LanguageTest {
             due.is("1: constant " + field.getName(), isPublic ? 1 : 0, constants.contains(field.getName()) ? 1 : 0);
             due.is("1: private " + field.getName(), isPublic || Modifier.isPrivate(field.getModifiers()) ? 1 : 0, 1);
         }
+    }
+
+    /** "int NONE = -1" and its like: public, static, final, of the type that is told. */
+    private static void constants(String document) throws Exception {
+        int many = 0;
+        Matcher line = Pattern.compile("public static final (int|long) ([^;]*);").matcher(document);
+        while (line.find()) {
+            for (String one : line.group(2).split(", ")) {
+                String name = one.substring(0, one.indexOf(' '));
+                String value = one.substring(one.indexOf("= ") + 2);
+                Field field = BitOff.class.getField(name);
+                due.is("1: type of " + name, field.getType().getName().equals(line.group(1)) ? 1 : 0, 1);
+                due.is("1: modifiers of " + name, field.getModifiers(), Modifier.PUBLIC | Modifier.STATIC | Modifier.FINAL);
+                long want = value.equals("Long.MIN_VALUE") ? Long.MIN_VALUE : Long.parseLong(value);
+                due.is("1: value of " + name, ((Number) field.get(null)).longValue(), want);
+                many++;
+            }
+        }
+        due.is("1: constants in the document", many, BitOff.class.getFields().length);
+    }
+
+    /** What the interface says ahead of its calls, and all calls in the document's order. */
+    private static void saidAhead(String document, String text) {
+        int at = 0;
+        int said = 0;
+        Matcher line = Pattern.compile("Ahead of the calls ([^\n]*) the interface says: ([^\n]*)\\.\n").matcher(document);
+        while (line.find()) {
+            at = text.indexOf("\n    // " + line.group(2) + "\n", at);
+            due.is("1: says " + line.group(2), at >= 0 ? 1 : 0, 1);
+            Matcher call = Pattern.compile("`(\\w+)`").matcher(line.group(1));
+            while (call.find()) {
+                Matcher method = Pattern.compile("\n    public (int|long) " + call.group(1) + "\\(").matcher(text);
+                boolean isNext = at >= 0 && method.find(at);
+                due.is("1: " + call.group(1) + " behind what is said", isNext ? 1 : 0, 1);
+                at = isNext ? method.start() : at;
+                said++;
+            }
+        }
+        due.is("1: calls in the document", said, 43);
     }
 
     private static void classes() {
